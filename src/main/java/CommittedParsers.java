@@ -723,7 +723,7 @@ public final class CommittedParsers {
     private static final class Trees {
         static final int HOLLOW = BYTES, TOO_BIG = BAD;
 
-        // A BOUGH or FORK that is made takes two STEPS at least, an ITEM for another one.
+        // Each that is made has taken two STEPS that no other of its sort took: 500 of SEQS, of repetitions, of chains.
         private static final int MADE = 2 * PARSE_STEPS, ROOM = HOLLOW + 1 + MADE;
 
         private final Row sort = new Row(ROOM);

@@ -695,6 +695,10 @@ public final class PromisesTest {
         due("what was parsed stays", bench.text(), "[97,97]");
         due("input stays", bench.x.count(2), 3);
         due("told stays", bench.x.told(2), 4);
+        Bench twice = Bench.of("A='a''a''b'|any;");
+        due("one byte twice", twice.x.drawn(0, 3, 3, 20), drawnByHand("aab", 3, 3, 20, "aab"));
+        Bench mostly = Bench.of("A='b'*;B='a''a''a''a';");
+        due("one byte four times", mostly.x.drawn(0, 9, 1, 20), drawnByHand("baaaa", 9, 1, 20, "b"));
         Bench digits = Bench.of("A=[05]+;");
         due("none quoted", digits.x.drawn(0, 5, 2, 20), drawnByHand("0123456789", 5, 2, 20, "[0-5]+"));
         due("one that loops isn't done", Bench.of("A='a'*cut*;").x.drawn(0, 1, 3, 20), 0);
