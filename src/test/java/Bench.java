@@ -1,23 +1,39 @@
+import java.util.LinkedHashSet;
+import java.util.Set;
+
 /** An object under test, texts put in and out of it, and a tally of wrong answers. */
 final class Bench {
+    private static final Set<String> BROKEN = new LinkedHashSet<>();
+    private static String heading = "";
     private static int asked = 0;
     private static int wrong = 0;
 
     final CommittedParsers x = new CommittedParsers();
 
+    /** What is asked from now on stands under this title. */
+    static void begin(String title) {
+        heading = title;
+    }
+
+    static int asked() {
+        return asked;
+    }
+
+    /** The titles under which an answer was wrong. */
+    static Set<String> broken() {
+        return BROKEN;
+    }
+
     static void due(String what, long got, long want) {
-        asked++;
-        if (got != want) {
-            wrong++;
-            System.out.println(what + " answered " + got + ", due is " + want);
-        }
+        due(what, Long.toString(got), Long.toString(want));
     }
 
     static void due(String what, String got, String want) {
         asked++;
         if (!got.equals(want)) {
             wrong++;
-            System.out.println(what + " answered " + got + ", due is " + want);
+            BROKEN.add(heading);
+            System.out.println((heading.isEmpty() ? "" : heading + ": ") + what + " answered " + got + ", due is " + want);
         }
     }
 
@@ -69,7 +85,7 @@ final class Bench {
 
     String text() {
         StringBuilder text = new StringBuilder();
-        for (int k = 0; x.text(k) >= 0; k++) {
+        for (int k = 0; k < 10000 && x.text(k) >= 0; k++) {
             text.append((char) x.text(k));
         }
         return text.toString();
@@ -77,10 +93,14 @@ final class Bench {
 
     /** Where it is done or how it fails, far, wanted, steps, answered by memory, sharp, nodes. */
     String parsed(String input) {
+        return parse(input) + " " + told();
+    }
+
+    /** What told answers, from 0 to 5. */
+    String told() {
         StringBuilder all = new StringBuilder();
-        all.append(parse(input));
         for (int what = 0; what <= 5; what++) {
-            all.append(' ').append(x.told(what));
+            all.append(what == 0 ? "" : " ").append(x.told(what));
         }
         return all.toString();
     }
@@ -88,5 +108,14 @@ final class Bench {
     /** The answer and the text of the tree. */
     String made(String input) {
         return parse(input) + " " + text();
+    }
+
+    /** All that count answers. */
+    String counts() {
+        StringBuilder all = new StringBuilder();
+        for (int what = 0; what <= 4; what++) {
+            all.append(what == 0 ? "" : " ").append(x.count(what));
+        }
+        return all.toString();
     }
 }
