@@ -1,5 +1,6 @@
 import java.util.ArrayList;
 import java.util.List;
+import java.util.Set;
 
 /**
  * Each sentence of the document that names a boundary (too small, too large, empty, full, a wrap-around, a refused
@@ -19,5 +20,11 @@ public final class BoundariesTest {
         all.addAll(ToldBoundaries.sentences());
         all.addAll(TreeBoundaries.sentences());
         return all;
+    }
+
+    /** The titles of those whose test fails; for Mutants. */
+    public static Set<String> brokenSentences() {
+        Sentence.askAll(sentences());
+        return Bench.broken();
     }
 }

@@ -46,19 +46,28 @@ final class CallBoundaries {
 
     // ---- promise 1
 
+    /** Read anew, not as it was when this was compiled. */
+    private static void constant(String name, int want) {
+        try {
+            due(name, CommittedParsers.class.getField(name).getInt(null), want);
+        } catch (ReflectiveOperationException none) {
+            due(name, "nothing", "" + want);
+        }
+    }
+
     private static void constants() {
-        due("NONE", CommittedParsers.NONE, -1);
-        due("BAD", CommittedParsers.BAD, -2);
-        due("STATE", CommittedParsers.STATE, -3);
-        due("FULL", CommittedParsers.FULL, -4);
+        constant("NONE", -1);
+        constant("BAD", -2);
+        constant("STATE", -3);
+        constant("FULL", -4);
     }
 
     private static void ends() {
-        due("LOOP", CommittedParsers.LOOP, -15);
-        due("RING", CommittedParsers.RING, -16);
-        due("STEPS", CommittedParsers.STEPS, -17);
-        due("DEEP", CommittedParsers.DEEP, -18);
-        due("BIG", CommittedParsers.BIG, -19);
+        constant("LOOP", -15);
+        constant("RING", -16);
+        constant("STEPS", -17);
+        constant("DEEP", -18);
+        constant("BIG", -19);
     }
 
     private static void newObject() {
@@ -355,6 +364,7 @@ final class CallBoundaries {
         String told = bench.told();
         for (int rule = 0; rule < 3; rule++) {
             bench.x.drawn(rule, 99, 20, 20);
+            bench.x.drawn(rule, 99, 1, 1);
             due("told", bench.told(), told);
             due("node", bench.x.node(4, 1), 'c');
             due("no node", bench.x.node(5, 1), -1);
@@ -398,12 +408,14 @@ final class CallBoundaries {
         due("240 bytes of input, too", bench.counts(), "8 32 240 240 0");
         bench.x.parse(1, 240);
         due("33 steps", bench.counts(), "8 32 240 240 33");
+        bench.x.parse(1, 240);
+        due("as many again", bench.counts(), "8 32 240 240 66");
         bench.x.grammar();
-        due("a fault takes the tape alone", bench.counts(), "8 32 240 0 33");
+        due("a fault takes the tape alone", bench.counts(), "8 32 240 0 66");
         bench.grammar("H=cut;");
-        due("a new grammar", bench.counts(), "1 0 240 0 33");
+        due("a new grammar", bench.counts(), "1 0 240 0 66");
         bench.x.input();
-        due("an empty input", bench.counts(), "1 0 0 0 33");
+        due("an empty input", bench.counts(), "1 0 0 0 66");
     }
 
     private static void badCount() {

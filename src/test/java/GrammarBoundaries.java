@@ -168,7 +168,34 @@ final class GrammarBoundaries {
         fault("A=[a];", 4);
     }
 
+    // Two rules, sign by sign; where no blank stands, none is needed.
+    private static final String[] SIGNS = {"A", "=", "(", "'a'", "|", "[bc]", ")", "*", "digit", "+", "any", "?", "B", ";", "B", "=", "chain",
+        "(", "try", "(", "end", ")", ",", "not", "(", "cut", ")", ")", "look", "(", "as", "(", "B", ")", ")", ";"};
+
+    /** The signs, with this ahead of the one at a place of them. */
+    private static String withAhead(int place, String what) {
+        StringBuilder to = new StringBuilder();
+        for (int k = 0; k < SIGNS.length; k++) {
+            to.append(k == place ? what : "").append(SIGNS[k]);
+        }
+        return to + (place == SIGNS.length ? what : "");
+    }
+
+    private static int placeOf(int sign) {
+        int place = 0;
+        for (int k = 0; k < sign; k++) {
+            place += SIGNS[k].length();
+        }
+        return place;
+    }
+
     private static void blanks() {
+        for (int k = 0; k <= SIGNS.length; k++) {
+            stands(withAhead(k, " "), 2);
+            stands(withAhead(k, "   "), 2);
+            fault(withAhead(k, "\t"), placeOf(k));
+            fault(withAhead(k, " \n"), placeOf(k) + 1);
+        }
         String bare = "A=('a'|[bc])*B;B=chain(digit,any)try(end)cut;";
         String blank = "  A  =  (  'a'  |  [bc]  )  *  B  ;  B  =  chain  (  digit  ,  any  )  try  (  end  )  cut  ;  ";
         stands(bare, 2);
@@ -224,6 +251,11 @@ final class GrammarBoundaries {
     }
 
     private static void straySigns() {
+        for (int k = 0; k <= SIGNS.length; k++) {
+            fault(withAhead(k, "]"), placeOf(k));
+            fault(withAhead(k, "  ]"), placeOf(k) + 2);
+            fault(withAhead(k, " x"), placeOf(k) + 1);
+        }
         for (char sign : ";=)],*+?|".toCharArray()) {
             fault("A= " + sign, 3);
             fault("  " + sign, 2);
@@ -306,6 +338,8 @@ final class GrammarBoundaries {
     private static void unknownName() {
         fault("A=B;", 2);
         fault("A=any C B;", 6);
+        fault("A=any C|C C;", 6);
+        fault("A=any C;B=C D;", 6);
         fault("A=A H;C=B;", 4);
         fault("A=A C;C=(any D);", 13);
         fault("A=B C;C=D;D=E;", 2);

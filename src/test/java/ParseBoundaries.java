@@ -255,6 +255,9 @@ final class ParseBoundaries {
         due("A=cut?;", "a", 0);
         due("A=end?end?;", "", 0);
         due("A=('a'?)?('a'*)?;", "b", 0);
+        Bench first = Bench.of("A=cut+;");
+        first.parse("");
+        due("at the first, not at the second", first.x.told(2), 1);
     }
 
     private static void tried() {
@@ -358,6 +361,8 @@ final class ParseBoundaries {
         due("A='a'A|end;", "aaa", 3);
         due("A=B;B=C;C=A;", "a", -16);
         due("A=try(A);", "a", -16);
+        due("A=any B;B=B;", "a", -16);
+        due("A=any*B;B=cut C;C=B;", "a".repeat(240), -16);
         due("A=cut not(A);", "a", -16);
         due("A=chain(A,any);", "a", -16);
         due("A=chain(any,A);", "a", 1);
@@ -365,6 +370,13 @@ final class ParseBoundaries {
         due("A=B B B;B=cut;", "", 0);
         due("A=look(B)any B;B=any;", "ab", 2);
         due("A=B*;B=any C?;C='x'B;", "axaxa", 5);
+        // Rule A at the last places is another than rule B at the first ones.
+        Bench bench = Bench.of("A=any?;B='a'*A;C='a'*B;");
+        for (String input : new String[] {"a".repeat(240), "a".repeat(239) + "x", "a".repeat(238) + "x"}) {
+            bench.input(input);
+            due("B of " + input, bench.x.parse(1, 0), input.length());
+            due("C of " + input, bench.x.parse(2, 0), input.length());
+        }
     }
 
     /** k STEPS more than 1000 for 199 bytes b; five for each byte, five till the last round fails. */
@@ -464,10 +476,12 @@ final class ParseBoundaries {
         tree(chain, "b-b-b-c-c-c" + "-1".repeat(10), 1999);
         tree(chain, "b-b-b-c-c-c-e123" + "-1".repeat(8), 2000);
         tree(chain, "b-b-b-c-c-c" + "-1".repeat(11), 2001);
+        tree(chain, "b-b-b-c-c-c" + "-1".repeat(50), 2079);
         tree(chain, "b-b-b-c-c-c-e123" + "-1".repeat(9), 2002);
         // As it is made: what comes behind it isn't looked at, what is never made isn't big.
         due("A=(BBBB)'x'|any" + GROWN, "y", -19);
         due("A=BBBB'x'|any" + GROWN, "y", 1);
+        due("A=(any cut B'a')*" + GROWN, "aaaaaaaab", -6);
         due("A=look(BBBB)" + GROWN, "", -19);
         due("A=not(BBBB)" + GROWN, "", -19);
         Bench bench = Bench.of("A=not(BBBB)" + GROWN);

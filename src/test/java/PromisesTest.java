@@ -4,12 +4,9 @@ public final class PromisesTest {
         promise1();
         promise2();
         promise3();
-        grammarFaults();
         promise4();
         promise5();
         committed();
-        loops();
-        limits();
         promise6();
         expected();
         memory();
@@ -125,92 +122,6 @@ public final class PromisesTest {
         due("input stays", bench.x.count(2), 1);
     }
 
-    private static void grammarFaults() {
-        fault("", 0);
-        fault("   ", 3);
-        fault("  a", 2);
-        fault("I=any;", 0);
-        fault("A", 1);
-        fault("A ", 2);
-        fault("A any;", 2);
-        fault("A=;", 2);
-        fault("A= ;", 3);
-        fault("A=I;", 2);
-        fault("A=any", 5);
-        fault("A=any  ", 7);
-        fault("A=any;;", 6);
-        fault("A=any;A=any;", 6);
-        fault("A=any; B", 8);
-        fault("A=any\n;", 5);
-        fault("A=any|;", 6);
-        fault("A=|any;", 2);
-        fault("A=any||any;", 6);
-        fault("A=*;", 2);
-        fault("A=any**;", 6);
-        fault("A=any*+;", 6);
-        fault("A=any? ?;", 7);
-        fault("A=any);", 5);
-        fault("A=any,any;", 5);
-        fault("A=();", 3);
-        fault("A=(any;", 6);
-        fault("A=(any,any);", 6);
-        fault("A=an;", 2);
-        fault("A=an", 2);
-        fault("A=anyone;", 2);
-        fault("A=digitend;", 2);
-        fault("A='a'  foo;", 7);
-        fault("A=try any;", 6);
-        fault("A=look", 6);
-        fault("A=as (any;", 9);
-        fault("A=chain(any);", 11);
-        fault("A=chain(any,any,any);", 15);
-        fault("A=chain(any any);", 15);
-        fault("A=chain(,any);", 8);
-        fault("A=chain(any,);", 12);
-        fault("A=chain any;", 8);
-        // Within ' ' and [ ].
-        fault("A='", 3);
-        fault("A=''", 3);
-        fault("A='';", 3);
-        fault("A=''';", 3);
-        fault("A='a", 4);
-        fault("A='ab';", 4);
-        fault("A='a ';", 4);
-        fault("A=[", 3);
-        fault("A=[a", 4);
-        fault("A=[ba];", 4);
-        fault("A=[ab", 5);
-        fault("A=[abc];", 5);
-        fault("A=[ab ];", 5);
-        fault("A=[" + (char) 200 + (char) 100 + "];", 4);
-        stands("A=[" + (char) 100 + (char) 200 + "];", 1);
-        // The 9th open bracket, whatever stands ahead of it; closed ones don't count.
-        fault("A=(((((((((any)))))))));", 10);
-        fault("A=((((((((try(any)))))))));", 13);
-        fault("A=((((((((chain (any,any)))))))));", 16);
-        fault("A=chain(chain(chain(chain(chain(chain(chain(chain(((", 50);
-        stands("A=((((((((any))))(any)))))((any));", 1);
-        // NAMES of no RULE, if there is no other fault.
-        fault("A=B;", 2);
-        fault("A=any C B;", 6);
-        fault("A=B C;C=D;", 2);
-        fault("A=A C;C=(any D);", 13);
-        fault("A=B;x", 4);
-        fault("A=B;C", 5);
-        // The 33rd atom.
-        String quoted = "'a'".repeat(32);
-        stands("A=" + quoted + ";", 1);
-        fault("A=" + quoted + "'b';", 98);
-        fault("A=" + quoted + ";B= [ab];", 102);
-        fault("A=" + quoted + "(any);", 99);
-        fault("A=" + quoted + " not(any);", 99);
-        fault("A=" + quoted + "as x", 98);
-        fault("A=" + quoted + "'' ", 98);
-        stands("A=" + quoted + "try(cut)A;", 1);
-        stands("A=" + "not(as(digit))".repeat(10) + "end any;", 1);
-        fault("A=" + "not(as(digit))".repeat(10) + "end any 'x';", 150);
-    }
-
     private static void promise4() {
         Bench bench = Bench.of("A=any;");
         due("input", bench.input("xyz"), 3);
@@ -302,91 +213,6 @@ public final class PromisesTest {
         due("chain's second fails sharp", Bench.of("A=chain('a',','cut'-')|any;").parse("a,b"), -6);
         due("chain, sharp at first, goes back", Bench.of("A=chain('a'cut,',')any;").parse("a,b"), 2);
         due("chain, sharp at first, is sharp", Bench.of("A=chain('a'cut,',')'x'|any;").parse("a,b"), -6);
-    }
-
-    private static void loops() {
-        due("* of look", Bench.of("A=look(any)*;").parse("a"), -15);
-        due("+ at the first", Bench.of("A=cut+;").parse("a"), -15);
-        due("* of what takes nothing at last", Bench.of("A=('a'?)*;").parse("aa"), -15);
-        due("not within ?", Bench.of("A=cut?end?;").parse(""), 0);
-        due("* of * ", Bench.of("A=('a'*)*;").parse("a"), -15);
-        due("* of +", Bench.of("A=('a'+)*;").parse("a"), 1);
-        due("chain of nothing", Bench.of("A=chain('a'?,cut);").parse("b"), -15);
-        due("chain: together they take", Bench.of("A=chain('a'?,'b');").parse("bb"), 2);
-        due("chain: the first takes", Bench.of("A=chain('a',look(any)|cut);").parse("aa"), -6);
-        due("chain: the first takes, none sharp", Bench.of("A=chain('a',look(any));").parse("aab"), 2);
-        due("ring", Bench.of("A=A;").parse("a"), -16);
-        due("ring of two", Bench.of("A='x'?B;B=not(A)any;").parse("a"), -16);
-        due("ring within not ends all", Bench.of("A=not(A)|any;").parse("a"), -16);
-        due("no ring farther on", Bench.of("A=any A|end;").parse("aaa"), 3);
-        due("no ring one behind the other", Bench.of("A=look(B)B B;B=any;").parse("aa"), 2);
-    }
-
-    private static void limits() {
-        // One NAME for each byte; within 59 others a part is run, within 60 it isn't.
-        due("60 deep", Bench.of("A='a'A|'b';").parse("a".repeat(59) + "b"), 60);
-        Bench deep = Bench.of("A='a'A|'b';");
-        due("61 deep", deep.parse("a".repeat(60) + "b"), -18);
-        due("the step counts", deep.x.told(2), 121);
-        due("brackets count", Bench.of("A='a'(A)|'b';").parse("a".repeat(29) + "b"), 30);
-        due("brackets count", Bench.of("A='a'(A)|'b';").parse("a".repeat(30) + "b"), -18);
-        order();
-
-        Bench steps = Bench.of("A=('a'?'a'?'a'?'b')*;");
-        // Five steps for each byte, and two for the last round's bracket and first item at the end.
-        due("995 + 5 steps", steps.parse("b".repeat(199)), 199);
-        due("told", steps.x.told(2), 1000);
-        due("one more", steps.parse("b".repeat(200)), -17);
-        due("1000 are told", steps.x.told(2), 1000);
-        due("not sharp", steps.x.told(4), 0);
-        due("no tree", steps.x.told(5), 0);
-
-        String grown = "B=CCCCCCCC;C=DDDDDDDD;D=EEEEEEEE;E='x'?;";
-        // B 585 nodes, C 73, D 9, E 1.
-        Bench exact = Bench.of("A=BBBCCC D E E E E E E E E E E E E E E E E;" + grown);
-        due("exactly 2000", exact.parse(""), 0);
-        due("nodes", exact.x.told(5), 1 + 3 * 585 + 3 * 73 + 9 + 16);
-        Bench more = Bench.of("A=BBBCCC D E E E E E E E E E E E E E E E E E;" + grown);
-        due("2001", more.parse(""), -19);
-        due("no nodes", more.x.told(5), 0);
-        due("as it is made", Bench.of("A=(BBBB)'x';" + grown).parse(""), -19);
-        due("not if it is not made", Bench.of("A=BBBB'x';" + grown).parse(""), -5);
-        due("* makes it at its end", Bench.of("A=(any B)*;" + grown).parse("aaa"), 3);
-        due("* makes it at its end", Bench.of("A=(any B)*;" + grown).parse("aaaa"), -19);
-        due("but not if it fails", Bench.of("A=(any cut B'a')*;" + grown).parse("aaaaaaaab"), -6);
-        due("a fork", Bench.of("A=chain(any B,'-');" + grown).parse("a-a-a"), 5);
-        due("a fork too big", Bench.of("A=chain(any B,'-');" + grown).parse("a-a-a-a"), -19);
-
-        Bench all = Bench.of("A=(any)*;");
-        all.feed("a".repeat(240));
-        all.x.input();
-        // 482 steps for each parse: 82 of them are 39524.
-        for (int k = 0; k < 82; k++) {
-            due("parse " + k, all.x.parse(0, 0), 240);
-        }
-        due("steps of all", all.x.count(4), 39524);
-        due("the steps of all are used up", all.x.parse(0, 0), -17);
-        due("as many as it had", all.x.told(2), 476);
-        due("steps of all", all.x.count(4), 40000);
-        due("no more", all.x.parse(0, 240), -17);
-        due("none", all.x.told(2), 0);
-        due("drawn, none is done", all.x.drawn(0, 1, 1, 20), 0);
-        all.grammar("A=end;");
-        due("also with a new grammar", all.x.parse(0, 240), -17);
-    }
-
-    /** Of a part: steps, then how deep, then memory, then ring. */
-    private static void order() {
-        String known = "C='a'C|'c'((B));B='b';";
-        due("memory at 60", Bench.of("A=look('a'*'c'B)C;" + known).parse("a".repeat(56) + "cb"), 58);
-        due("not in memory", Bench.of("A=C;" + known).parse("a".repeat(56) + "cb"), -18);
-        due("how deep ahead of memory", Bench.of("A=look('a'*'c'B)C;" + known).parse("a".repeat(57) + "cb"), -18);
-        due("ring at 60", Bench.of("A='a'A|'c'B;B=((B));").parse("a".repeat(56) + "c"), -16);
-        due("how deep ahead of ring", Bench.of("A='a'A|'c'B;B=((B));").parse("a".repeat(57) + "c"), -18);
-        String late = "('y'?'y'?'y'?'y'?'x')*B;B='a'B|'b';";
-        String input = "x".repeat(145) + "a".repeat(60);
-        due("how deep at the 1000th step", Bench.of("A='y'?'y'?'y'?'y'?" + late).parse(input), -18);
-        due("steps ahead of how deep", Bench.of("A='y'?'y'?'y'?'y'?'y'?" + late).parse(input), -17);
     }
 
     private static void promise6() {

@@ -18,6 +18,7 @@ final class TreeBoundaries {
             new Sentence(7, "within how many others it is (2)", TreeBoundaries::within),
             new Sentence(7, "NODES by numbers from 0: one, then what is in it, one behind the other, each with what is in it",
                 TreeBoundaries::firstAndLastNode),
+            new Sentence(7, "A NODE of the TREE", TreeBoundaries::afterManyParses),
             new Sentence(7, "of the ITEMS with TREES, without those that are just ' ' (a PART without * + ?): none: that of the first ' '"
                 + " (nothing, if there is none); one: that; more: a BOUGH of them", TreeBoundaries::treeOfSequence),
             new Sentence(7, "('a') in brackets is not just ' '.", TreeBoundaries::bracketsAreNot),
@@ -146,6 +147,25 @@ final class TreeBoundaries {
             due("what " + k + " is within", order.x.node(k, 2), depths[k]);
         }
         due("none behind them", order.x.node(sorts.length, 0), -1);
+    }
+
+    /** However many trees, also half made ones, were there before. */
+    private static void afterManyParses() {
+        Bench bench = Bench.of("A=chain(B,'-');B=(any[xz]any)+;C=" + "any ".repeat(20) + "cut*;D=(any any)*;");
+        bench.input("1x22x3-4z5-6q7" + "8z9".repeat(30));
+        for (int time = 0; time < 20; time++) {
+            due("a tree", bench.x.parse(0, 0), 10);
+            Bench.due("its text", bench.text(), "([[49,120,50],[50,120,51]]-[[52,122,53]])");
+            due("its nodes", bench.x.told(5), 15);
+            due("its last", bench.x.node(14, 1), '5');
+            due("none behind it", bench.x.node(15, 0), -1);
+            due("a loop", bench.x.parse(2, 0), -15);
+            due("a large tree", bench.x.parse(3, 0), 104);
+            due("its nodes", bench.x.told(5), 1 + 52 * 3);
+            due("one within it", bench.x.node(154, 0) * 1000 + bench.x.node(154, 1), 1002);
+            due("its last", bench.x.node(156, 1), '9');
+            bench.x.drawn(2, time, 20, 20);
+        }
     }
 
     private static void treeOfSequence() {
