@@ -8,7 +8,7 @@ final class Bench {
     private static int asked = 0;
     private static int wrong = 0;
 
-    final CommittedParsers x = new CommittedParsers();
+    final Parsers x = new Parsers();
 
     /** What is asked from now on stands under this title. */
     static void begin(String title) {
@@ -85,8 +85,10 @@ final class Bench {
 
     String text() {
         StringBuilder text = new StringBuilder();
-        for (int k = 0; k < 10000 && x.text(k) >= 0; k++) {
-            text.append((char) x.text(k));
+        int sign = x.text(0);
+        while (sign >= 0) {
+            text.append((char) sign);
+            sign = x.text(text.length());
         }
         return text.toString();
     }

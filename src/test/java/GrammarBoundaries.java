@@ -454,9 +454,9 @@ final class GrammarBoundaries {
 
     private static void badAheadOfNone() {
         for (int rule = 0; rule < 8; rule++) {
-            due("what -1 of none", new CommittedParsers().rule(rule, -1), -2);
-            due("what 4 of none", new CommittedParsers().rule(rule, 4), -2);
-            due("what 3 of none", new CommittedParsers().rule(rule, 3), -1);
+            due("what -1 of none", new Parsers().rule(rule, -1), -2);
+            due("what 4 of none", new Parsers().rule(rule, 4), -2);
+            due("what 3 of none", new Parsers().rule(rule, 3), -1);
         }
     }
 
@@ -612,7 +612,7 @@ final class GrammarBoundaries {
             due("what 4 of atom " + atom, bench.x.atom(atom, 4), -2);
             due("what -1 of atom " + atom, bench.x.atom(atom, -1), -2);
         }
-        due("what 4 of no grammar", new CommittedParsers().atom(0, 4), -2);
+        due("what 4 of no grammar", new Parsers().atom(0, 4), -2);
     }
 
     private static void atomsAsTheyCome() {

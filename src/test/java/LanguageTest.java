@@ -1,48 +1,145 @@
 import java.io.IOException;
+import java.lang.reflect.Constructor;
+import java.lang.reflect.Field;
+import java.lang.reflect.Method;
+import java.lang.reflect.Modifier;
 import java.nio.file.Files;
 import java.nio.file.Path;
+import java.util.ArrayList;
+import java.util.Arrays;
+import java.util.List;
+import java.util.Set;
+import java.util.TreeSet;
 import java.util.regex.Matcher;
 import java.util.regex.Pattern;
 
-/** Those rules of ../shared/LANGUAGE.md that the text of the class alone can show broken. */
+/** Those rules of ../shared/LANGUAGE.md that the class itself or its text can show broken. */
 public final class LanguageTest {
-    private static final String FACE = "feed|grammar|input|parse|told|node|worth|text|rule|atom|drawn|count";
+    private static final String[] FACE = {"atom(int,int)", "count(int)", "drawn(int,int,int,int)", "feed(int,int)", "grammar()", "input()",
+        "node(int,int)", "parse(int,int)", "rule(int,int)", "text(int)", "told(int)", "worth()"};
+    private static final String[] CONSTANTS = {"BAD=-2", "BIG=-19", "DEEP=-18", "FULL=-4", "LOOP=-15", "NONE=-1", "RING=-16", "STATE=-3",
+        "STEPS=-17"};
+    private static final String THROWN = "IllegalStateException|IllegalArgumentException|IndexOutOfBoundsException|ArithmeticException"
+        + "|UnsupportedOperationException|NoSuchElementException|RuntimeException";
 
-    public static void main(String[] args) throws IOException {
+    public static void main(String[] args) throws IOException, IllegalAccessException {
         String source = Files.readString(Path.of("src/main/java/CommittedParsers.java"));
         String code = source.replaceAll("(?s)/\\*.*?\\*/", "").replaceAll("//[^\\n]*", "");
-        none(code, "->|::", "a lambda, a method reference, a switch with arrows (rules 2, 6)");
-        none(code, "\\b(throw|throws|try|catch|finally|assert|synchronized|instanceof|record|var)\\b(?!\")", "rule 6");
-        none(code, "\\b(Exact|Random|System\\.(?!arraycopy)|Thread|File)\\w*", "rules 4 and 13");
-        none(code, "import (?!java\\.util\\.Arrays;)", "an import (rule 4)");
-        none(code, "\\bpackage\\b", "a package (the language's head)");
-        none(code, "static (?!final|int [a-z]|boolean [a-z]|long [a-z])", "a static that is not final (rule 5)");
-        none(code, "private (static )?(final )?[\\w\\[\\]]+ (" + FACE + ")\\(", "a private method with a public one's name (rule 1)");
-        none(code, "(?m)^ {8}[\\w\\[\\] ]+ (" + FACE + ")\\([^;]*\\{", "an inner method with a public one's name (rule 1)");
-        none(code, "(?m)^ {4}(?!private|public|\\}|@)[\\w]", "a member of the outer class that is neither private nor public (rule 1)");
-        Bench.due("classes within", count(code, "\\bclass\\b") > 12 ? 1 : 0, 0);
-        lengths(source);
+        face();
+        classes();
+        statics();
+        words(code);
+        sizes(source);
         Bench.finish("LanguageTest");
     }
 
-    private static void none(String code, String pattern, String what) {
+    private static List<Class<?>> all() {
+        List<Class<?>> all = new ArrayList<>();
+        all.add(CommittedParsers.class);
+        all.addAll(Arrays.asList(CommittedParsers.class.getDeclaredClasses()));
+        return all;
+    }
+
+    /** Rule 1: the face, and no other member that can be seen from outside. */
+    private static void face() throws IllegalAccessException {
+        Bench.begin("rule 1");
+        Class<?> outer = CommittedParsers.class;
+        Bench.due("public and final", Modifier.toString(outer.getModifiers()), "public final");
+        Bench.due("constructors", outer.getDeclaredConstructors().length, 1);
+        for (Constructor<?> one : outer.getDeclaredConstructors()) {
+            Bench.due("its constructor", Modifier.toString(one.getModifiers()) + one.getParameterCount(), "public0");
+        }
+        Set<String> names = new TreeSet<>(), methods = new TreeSet<>(), fields = new TreeSet<>();
+        for (Method one : outer.getDeclaredMethods()) {
+            if (!Modifier.isPrivate(one.getModifiers()) && !one.isSynthetic()) {
+                names.add(one.getName());
+                methods.add(one.getName() + Arrays.toString(one.getParameterTypes()).replace("[", "(").replace("]", ")").replace(" ", ""));
+                Bench.due(one.getName(), Modifier.toString(one.getModifiers()) + " " + one.getReturnType(), "public int");
+            }
+        }
+        for (Field one : outer.getDeclaredFields()) {
+            if (!Modifier.isPrivate(one.getModifiers()) && !one.isSynthetic()) {
+                fields.add(one.getName() + "=" + one.get(null));
+                Bench.due(one.getName(), Modifier.toString(one.getModifiers()) + " " + one.getType(), "public static final int");
+            }
+        }
+        Bench.due("methods", methods.toString(), Arrays.toString(FACE));
+        Bench.due("constants", fields.toString(), Arrays.toString(CONSTANTS));
+        for (Class<?> one : all()) {
+            for (Method method : one.getDeclaredMethods()) {
+                boolean hidden = Modifier.isPrivate(method.getModifiers()) && !method.isSynthetic();
+                Bench.due("private " + method.getName() + " bears a public one's name", hidden && names.contains(method.getName()) ? 1 : 0, 0);
+            }
+        }
+    }
+
+    /** Rules 1 and 11: classes inside are private or package-visible, at most some twelve, of at most some twenty fields. */
+    private static void classes() {
+        Bench.begin("rules 1 and 11");
+        Bench.due("more than twelve classes", all().size() > 13 ? all().size() : 0, 0);
+        for (Class<?> one : CommittedParsers.class.getDeclaredClasses()) {
+            Bench.due("seen from outside " + one.getSimpleName(), one.getModifiers() & (Modifier.PUBLIC | Modifier.PROTECTED), 0);
+        }
+        for (Class<?> one : all()) {
+            int fields = 0;
+            for (Field field : one.getDeclaredFields()) {
+                fields += Modifier.isStatic(field.getModifiers()) || field.isSynthetic() ? 0 : 1;
+            }
+            Bench.due("fields of " + one.getSimpleName(), fields > 20 ? fields : 0, 0);
+            for (Method method : one.getDeclaredMethods()) {
+                Bench.due("parameters of " + method.getName(), method.getParameterCount() > 7 ? 1 : 0, 0);
+            }
+        }
+    }
+
+    /** Rule 5: static fields are final and of the sorts that may be. */
+    private static void statics() {
+        Bench.begin("rule 5");
+        for (Class<?> one : all()) {
+            for (Field field : one.getDeclaredFields()) {
+                if (Modifier.isStatic(field.getModifiers()) && !field.isSynthetic() && !one.isEnum()) {
+                    Bench.due("final " + field.getName(), Modifier.isFinal(field.getModifiers()) ? 1 : 0, 1);
+                    String sort = field.getType().getSimpleName();
+                    Bench.due("sort of " + field.getName(), sort.matches("int|long|boolean|char|String|(int|long|char|byte)\\[\\]") ? "" : sort, "");
+                }
+            }
+        }
+    }
+
+    /** What may not stand in the text. */
+    private static void words(String code) {
+        none(code, "the head: a package", "(?m)^\\s*package\\b");
+        none(code, "rule 2: a lambda or a method reference", "->|::");
+        none(code, "rule 3: float sums by Math", "\\bMath\\.(sqrt|pow|floor|ceil|round|sin|cos|exp|log)\\b");
+        none(code, "rule 4: an import", "import (?!java\\.util\\.(Arrays|ArrayList|List|Iterator|NoSuchElementException);)[^;]*;");
+        none(code, "rule 4: a library's function", "\\bMath\\.\\w+Exact\\b|\\bSystem\\.(?!arraycopy\\b)\\w+|\\bString\\.\\w+|\\bObjects\\b");
+        none(code, "rule 5: a static block", "\\bstatic\\s*\\{");
+        none(code, "rule 6: a word", "\\b(finally|synchronized|assert|throws)\\b");
+        none(code, "rule 6: another throw", "\\bthrow\\b(?! new (" + THROWN + ")\\((\"[^\"]*\")?\\);)");
+        none(code, "rule 6: another catch", "\\bcatch\\s*\\((?!(" + THROWN + ") )");
+        none(code, "rule 6: try with resources", "\\btry\\s*\\(");
+        none(code, "rule 9: a loop without an end", "while\\s*\\(\\s*true\\s*\\)|for\\s*\\([^;]*;\\s*;");
+        none(code, "rule 10: texts joined by +", "\"\\s*\\+|\\+\\s*\"");
+        none(code, "rule 13: the world outside", "\\b(Random|Thread|Runtime|Process\\w*|File\\w*|Path|Socket|currentTimeMillis|nanoTime)\\b");
+        none(code, "the machine's own exceptions", "\\b(ArrayIndexOutOfBounds|NullPointer|ClassCast|NegativeArraySize|ArrayStore)Exception\\b");
+    }
+
+    private static void none(String code, String what, String pattern) {
+        Bench.begin(what);
         Matcher matcher = Pattern.compile(pattern).matcher(code);
-        Bench.due(what, matcher.find() ? matcher.group() : "none", "none");
+        Bench.due("found", matcher.find() ? matcher.group().trim() : "nothing", "nothing");
     }
 
-    private static int count(String code, String pattern) {
-        return (int) Pattern.compile(pattern).matcher(code).results().count();
-    }
-
-    /** No method is longer than sixty lines (rule 11). */
-    private static void lengths(String source) {
+    /** Rule 11: methods stay short, some sixty lines. */
+    private static void sizes(String source) {
+        Bench.begin("rule 11");
         String[] lines = source.split("\n");
         int from = -1;
         for (int k = 0; k < lines.length; k++) {
             if (lines[k].matches(" {4,8}[\\w].*\\) \\{")) {
                 from = k;
             } else if (lines[k].matches(" {4,8}\\}") && from >= 0) {
-                Bench.due("lines of " + lines[from].trim(), k - from > 60 ? k - from : 0, 0);
+                Bench.due("lines of " + lines[from].trim(), k - from > 65 ? k - from : 0, 0);
                 from = -1;
             }
         }

@@ -7,11 +7,11 @@ public final class ModelTest {
 
     private final Random random;
     private final int[] seen = new int[ENDS.length];
-    private int done = 0, faults = 0, read = 0, big = 0, calls = 0;
+    private int done = 0, faults = 0, read = 0, big = 0, calls = 0, ended = 0;
     private int wrong = 0;
     private boolean finished = false;
     private Model model;
-    private CommittedParsers real;
+    private Parsers real;
     private StringBuilder story;
 
     private ModelTest(long seed) {
@@ -20,15 +20,15 @@ public final class ModelTest {
 
     public static void main(String[] args) throws InterruptedException {
         long seed = args.length > 0 ? Long.parseLong(args[0]) : 1;
-        int runs = args.length > 1 ? Integer.parseInt(args[1]) : 4000;
+        int runs = args.length > 1 ? Integer.parseInt(args[1]) : 20000;
         ModelTest test = new ModelTest(seed);
         // The model lists its trees by recursion.
         Thread thread = new Thread(null, () -> test.all(runs), "model", 1L << 29);
         thread.start();
         thread.join();
         System.out.println("calls " + test.calls + ", grammars " + test.read + ", faults " + test.faults + ", done " + test.done
-            + ", ends " + Arrays.toString(ENDS) + " " + Arrays.toString(test.seen) + ", large trees " + test.big);
-        boolean thin = runs >= 4000 && Arrays.stream(test.seen).min().getAsInt() == 0;
+            + ", objects used up " + test.ended + ", ends " + Arrays.toString(ENDS) + " " + Arrays.toString(test.seen) + ", large trees " + test.big);
+        boolean thin = runs >= 20000 && Arrays.stream(test.seen).min().getAsInt() == 0;
         if (thin) System.out.println("an end was never reached");
         if (test.wrong > 0 || thin || !test.finished) System.exit(1);
     }
@@ -36,9 +36,14 @@ public final class ModelTest {
     private void all(int runs) {
         for (int k = 0; k < runs && wrong < 5; k++) {
             model = new Model();
-            real = new CommittedParsers();
+            real = new Parsers();
             story = new StringBuilder();
-            run(k);
+            try {
+                if (k % 4 == 3) wild();
+                else run(k);
+            } catch (Parsers.UsedUp end) {
+                ended++;
+            }
         }
         finished = true;
     }
@@ -77,17 +82,23 @@ public final class ModelTest {
     }
 
     private void about() {
-        for (int rule = -1; rule <= 8; rule++) for (int what = -1; what <= 4; what++) {
+        for (int k = 0; k < 16; k++) {
+            int rule = random.nextInt(5), what = 1 + random.nextInt(3);
+            if (k % 8 == 0) rule = random.nextInt(10) - 1;
+            if (k % 8 == 1) what = random.nextInt(6) - 1;
             same("rule " + rule + " " + what, model.rule(rule, what), real.rule(rule, what));
         }
-        for (int atom = -1; atom <= 33; atom++) for (int what = -1; what <= 4; what++) {
+        int atoms = model.count(1);
+        for (int k = 0; k < 12; k++) {
+            int atom = random.nextInt(atoms + 2) - (k % 6 == 0 ? 1 : 0), what = random.nextInt(4);
+            if (k % 6 == 1) what = random.nextInt(6) - 1;
             same("atom " + atom + " " + what, model.atom(atom, what), real.atom(atom, what));
         }
         counts();
     }
 
     private void counts() {
-        for (int what = -1; what <= 5; what++) same("count " + what, model.count(what), real.count(what));
+        for (int what = 0; what <= 4; what++) same("count " + what, model.count(what), real.count(what));
     }
 
     private void parses(int size) {
@@ -105,16 +116,78 @@ public final class ModelTest {
     }
 
     private void lookAround() {
-        for (int what = -1; what <= 6; what++) same("told " + what, model.told(what), real.told(what));
+        for (int what = 0; what <= 5; what++) same("told " + what, model.told(what), real.told(what));
         same("worth", model.worth(), real.worth());
         int many = Math.max(model.told(5), 0);
         if (many > 500) big++;
-        for (int k = -1; k <= many + 1; k++) for (int what = -1; what <= 3; what++) {
-            same("node " + k + " " + what, model.node(k, what), real.node(k, what));
-        }
         int size = 0;
         while (model.text(size) >= 0) size++;
-        for (int k = -1; k <= size + 1; k++) same("text " + k, model.text(k), real.text(k));
+        // All of what is small, some of what is large.
+        for (int k = 0; k < Math.min(many + 1, 8); k++) {
+            int node = many < 8 ? k : k == 7 ? many : random.nextInt(many);
+            for (int what = 0; what < 3; what++) same("node " + node + " " + what, model.node(node, what), real.node(node, what));
+        }
+        for (int k = 0; k < Math.min(size + 1, 16); k++) {
+            int place = size < 16 ? k : k == 15 ? size : random.nextInt(size);
+            same("text " + place, model.text(place), real.text(place));
+        }
+    }
+
+    private static final int[] EDGES = {Integer.MIN_VALUE, -2, -1, 0, 0, 0, 1, 1, 2, 3, 4, 5, 7, 8, 9, 20, 21, 31, 32, 239, 240, 241,
+        1999, 2000, Integer.MAX_VALUE};
+
+    private int edge() {
+        return EDGES[random.nextInt(EDGES.length)];
+    }
+
+    /** Any calls in any order, with any arguments, till the object is used up. */
+    private void wild() {
+        String tape = "";
+        while (wrong == 0) {
+            int a = edge(), b = edge(), c = random.nextInt(4) == 0 ? edge() : 1 + random.nextInt(20), d = random.nextInt(4) == 0 ? edge() : 3;
+            switch (random.nextInt(16)) {
+                case 0:
+                    if (random.nextInt(20) == 0) same("grammar", model.grammar(), real.grammar());
+                    break;
+                case 1:
+                    if (random.nextInt(20) == 0) same("input", model.input(), real.input());
+                    break;
+                case 2: same("parse " + a + " " + b, model.parse(a, b), real.parse(a, b)); break;
+                case 3: same("told " + a, model.told(a), real.told(a)); break;
+                case 4: same("node " + a + " " + b, model.node(a, b), real.node(a, b)); break;
+                case 5: same("worth", model.worth(), real.worth()); break;
+                case 6: same("text " + a, model.text(a), real.text(a)); break;
+                case 7: same("rule " + a + " " + b, model.rule(a, b), real.rule(a, b)); break;
+                case 8: same("atom " + a + " " + b, model.atom(a, b), real.atom(a, b)); break;
+                case 9: same("drawn " + a + " " + b + " " + c + " " + d, model.drawn(a, b, c, d), real.drawn(a, b, c, d)); break;
+                case 10: same("count " + a, model.count(a), real.count(a)); break;
+                case 11:
+                    if (random.nextInt(5) == 0) same("feed " + a, model.feed(a, b), real.feed(a, b));
+                    break;
+                default: tape = fed(tape);
+            }
+        }
+    }
+
+    /** Feeds the next bytes of a text that is a grammar, or nearly; answers what is left of it. */
+    private String fed(String left) {
+        String text = left;
+        if (text.isEmpty()) {
+            names = 1 + random.nextInt(3);
+            text = grammarText(random.nextInt(400));
+            int sort = random.nextInt(6);
+            if (sort < 3) text = inputText();
+            if (sort == 3) text = broken(text);
+            isInput = sort < 3;
+        }
+        int n = Math.min(1 + random.nextInt(4), text.length());
+        int word = random.nextInt();
+        for (int b = 0; b < n; b++) word = word & ~(255 << 8 * b) | text.charAt(b) << 8 * b;
+        if (n > 0) same("feed " + n, model.feed(n, word), real.feed(n, word));
+        text = text.substring(n);
+        if (text.isEmpty() && isInput) same("input", model.input(), real.input());
+        else if (text.isEmpty()) same("grammar", model.grammar(), real.grammar());
+        return text;
     }
 
     private void drawings() {
@@ -147,6 +220,7 @@ public final class ModelTest {
 
     private static final char[] BYTES = {'a', 'b', 'a', 'b', 'c', '+', '-', '*', '1', (char) 200};
 
+    private boolean isInput;
     private int names;
     private int depth;
     private int room;

@@ -38,7 +38,7 @@ public final class PromisesTest {
     }
 
     private static void promise1() {
-        CommittedParsers x = new CommittedParsers();
+        Parsers x = new Parsers();
         for (int what = 0; what <= 4; what++) {
             due("new count " + what, x.count(what), 0);
         }
@@ -62,7 +62,7 @@ public final class PromisesTest {
     }
 
     private static void promise2() {
-        CommittedParsers x = new CommittedParsers();
+        Parsers x = new Parsers();
         due("feed 0", x.feed(0, 65), -2);
         due("feed 5", x.feed(5, 65), -2);
         due("feed -1", x.feed(-1, 65), -2);
@@ -225,8 +225,8 @@ public final class PromisesTest {
         due("nothing at all", bench.parsed(""), "-5 0 3 2 0 0 0");
         due("BAD", bench.x.told(6), -2);
         due("BAD", bench.x.told(-1), -2);
-        due("BAD ahead of STATE", new CommittedParsers().told(6), -2);
-        due("STATE", new CommittedParsers().told(5), -3);
+        due("BAD ahead of STATE", new Parsers().told(6), -2);
+        due("STATE", new Parsers().told(5), -3);
         due("a loop is not sharp", Bench.of("A=cut*;").parsed("a"), "-15 -1 0 1 0 0 0");
         Bench high = Bench.of("A=" + "'a'|".repeat(31) + "'b';");
         high.parse("c");
@@ -292,8 +292,8 @@ public final class PromisesTest {
         due("BAD", bench.x.node(0, 3), -2);
         due("BAD", bench.x.node(0, -1), -2);
         due("BAD ahead of NONE", bench.x.node(99, 3), -2);
-        due("BAD ahead of STATE", new CommittedParsers().node(0, 3), -2);
-        due("STATE ahead of NONE", new CommittedParsers().node(-1, 0), -3);
+        due("BAD ahead of STATE", new Parsers().node(0, 3), -2);
+        due("STATE ahead of NONE", new Parsers().node(-1, 0), -3);
         bench.x.drawn(0, 1, 5, 5);
         due("drawn leaves it", bench.x.node(5, 1), 99);
         Bench fails = Bench.of("A='a';");
@@ -368,7 +368,7 @@ public final class PromisesTest {
         due("no tree", worth("A=digit;", "x"), 0);
         due("nothing", worth("A=cut;", "x"), 0);
         due("ended", worth("A=A;", "x"), 0);
-        due("STATE", new CommittedParsers().worth(), -3);
+        due("STATE", new Parsers().worth(), -3);
         Bench bench = Bench.of("A=digit*;");
         bench.parse("42");
         bench.x.drawn(0, 1, 9, 9);
@@ -383,7 +383,7 @@ public final class PromisesTest {
         due("behind it", bench.x.text(33), -1);
         due("far behind it", bench.x.text(Integer.MAX_VALUE), -1);
         due("far ahead of it", bench.x.text(Integer.MIN_VALUE), -1);
-        due("STATE", new CommittedParsers().text(-1), -3);
+        due("STATE", new Parsers().text(-1), -3);
         bench.x.drawn(0, 1, 9, 9);
         due("drawn leaves it", bench.text(), "(([97,[1,2]]*[98,[]])/[200,[]])");
         due("numbers", Bench.of("A=any*;").made("" + (char) 0 + (char) 9 + (char) 10 + (char) 99 + (char) 100 + (char) 255),
@@ -395,8 +395,8 @@ public final class PromisesTest {
         bench.parse("");
         due("none", bench.x.text(0), -1);
         Bench left = Bench.of("A=chain(any,'+');");
-        String want = "(".repeat(119) + "120" + "+120)".repeat(119);
-        due("a long chain", left.made("x+".repeat(119) + "x"), "239 " + want);
+        String want = "(".repeat(60) + "120" + "+120)".repeat(60);
+        due("a long chain", left.made("x+".repeat(60) + "x"), "121 " + want);
     }
 
     private static void promise10() {
@@ -412,7 +412,7 @@ public final class PromisesTest {
         due("BAD", bench.x.rule(0, 4), -2);
         due("BAD", bench.x.rule(4, -1), -2);
         due("BAD ahead of NONE", bench.x.rule(4, 4), -2);
-        due("NONE", new CommittedParsers().rule(0, 3), -1);
+        due("NONE", new Parsers().rule(0, 3), -1);
         nothing();
         self();
     }

@@ -55,7 +55,7 @@ final class ToldBoundaries {
     }
 
     private static void badAheadOfState() {
-        CommittedParsers x = new CommittedParsers();
+        Parsers x = new Parsers();
         for (int what : new int[] {-1, 6, MIN, MAX}) {
             due("told " + what + " of none", x.told(what), -2);
         }

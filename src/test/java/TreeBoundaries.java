@@ -76,7 +76,7 @@ final class TreeBoundaries {
     }
 
     private static void orderOfNode() {
-        CommittedParsers x = new CommittedParsers();
+        Parsers x = new Parsers();
         due("BAD ahead of STATE", x.node(0, 3), -2);
         due("BAD ahead of STATE", x.node(-1, -1), -2);
         due("STATE ahead of NONE", x.node(-1, 0), -3);
@@ -155,7 +155,6 @@ final class TreeBoundaries {
         bench.input("1x22x3-4z5-6q7" + "8z9".repeat(30));
         for (int time = 0; time < 20; time++) {
             due("a tree", bench.x.parse(0, 0), 10);
-            Bench.due("its text", bench.text(), "([[49,120,50],[50,120,51]]-[[52,122,53]])");
             due("its nodes", bench.x.told(5), 15);
             due("its last", bench.x.node(14, 1), '5');
             due("none behind it", bench.x.node(15, 0), -1);
@@ -166,6 +165,8 @@ final class TreeBoundaries {
             due("its last", bench.x.node(156, 1), '9');
             bench.x.drawn(2, time, 20, 20);
         }
+        due("a tree", bench.x.parse(0, 0), 10);
+        Bench.due("its text", bench.text(), "([[49,120,50],[50,120,51]]-[[52,122,53]])");
     }
 
     private static void treeOfSequence() {
@@ -380,9 +381,11 @@ final class TreeBoundaries {
         int size = 2 + 3 * 1681 + 3 * 209 + 25 + 16 * 2 + 22;
         due("the last of many", big.x.text(size - 1), ']');
         due("behind the last of many", big.x.text(size), -1);
-        due("all of them", big.text().length(), size);
+        due("one of them", big.x.text(size - 3), '[');
         Bench wide = Bench.of("A=any*;");
-        due("three signs each", wide.made(("" + (char) 255).repeat(240)).length(), "240 ".length() + 1 + 240 * 4);
+        due("three signs each", wide.parse(("" + (char) 255).repeat(240)), 240);
+        due("the last of 240", wide.x.text(240 * 4), ']');
+        due("behind the last of 240", wide.x.text(240 * 4 + 1), -1);
     }
 
     private static void noText() {
@@ -398,7 +401,7 @@ final class TreeBoundaries {
     }
 
     private static void orderOfText() {
-        CommittedParsers x = new CommittedParsers();
+        Parsers x = new Parsers();
         for (int k : new int[] {-1, 0, 1, MIN, MAX}) {
             due("text " + k, x.text(k), -3);
         }
@@ -434,7 +437,7 @@ final class TreeBoundaries {
         made("A=chain(digit|[az][az],'-')'x'?;", "ab-7", "4 [([97,98]-7),[]]");
         made("A=chain(chain(digit,'-'),'+');", "1-2+3-4", "7 ((1-2)+(3-4))");
         made("A=chain('x'?,'-');", "--", "2 (([]-[])-[])");
-        String left = "(".repeat(119) + "97" + "+97)".repeat(119);
-        made("A=chain('a','+');", "a" + "+a".repeat(119), "239 " + left);
+        String left = "(".repeat(80) + "97" + "+97)".repeat(80);
+        made("A=chain('a','+');", "a" + "+a".repeat(80), "161 " + left);
     }
 }
