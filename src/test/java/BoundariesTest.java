@@ -7,9 +7,21 @@ import java.util.Set;
  * call), under its promise's number, with a test of its own.
  */
 public final class BoundariesTest {
+    private static final int PROMISES = 13;
+
     public static void main(String[] args) {
-        Sentence.askAll(sentences());
-        Bench.finish("BoundariesTest, " + sentences().size() + " sentences");
+        for (int promise = 1; promise <= PROMISES; promise++) {
+            List<Sentence> its = new ArrayList<>();
+            for (Sentence sentence : sentences()) {
+                if (sentence.promise() == promise) {
+                    its.add(sentence);
+                }
+            }
+            int before = Bench.asked();
+            Sentence.askAll(its);
+            System.out.println("promise " + promise + ": " + its.size() + " sentences, " + (Bench.asked() - before) + " answers");
+        }
+        Bench.finish("BoundariesTest");
     }
 
     static List<Sentence> sentences() {

@@ -54,7 +54,7 @@ public final class Mutants {
                 OUT.println("line " + mutants.get(k).line + ", " + mutants.get(k).title + ": " + answer);
             }
         }
-        missed += untried(mutants);
+        missed += untried(mutants) + misquoted();
         OUT.println(mutants.size() + " mutants, " + missed + " faults");
         System.exit(missed > 0 ? 1 : 0);
     }
@@ -120,6 +120,19 @@ public final class Mutants {
             }
             return titles;
         }
+    }
+
+    /** Tells the sentences that the document doesn't have so. */
+    private static int misquoted() throws IOException {
+        String text = Files.readString(Path.of("../shared/DOC.md")).replaceAll("\\s+", " ");
+        int missing = 0;
+        for (Sentence sentence : BoundariesTest.sentences()) {
+            if (!text.contains(sentence.words())) {
+                missing++;
+                OUT.println("the document doesn't say: " + sentence.words());
+            }
+        }
+        return missing;
     }
 
     /** Tells the sentences that no mutant breaks. */

@@ -17,6 +17,7 @@ final class ParseBoundaries {
             new Sentence(5, "a PLACE of INPUT (0 .. its size; the size is its end)", ParseBoundaries::firstAndLastPlace),
             new Sentence(5, "if the byte there is that, from the first to the second, a digit, whatever one", ParseBoundaries::bytesThatFit),
             new Sentence(5, "end: at INPUT's end DONE there, nothing. Else they FAIL", ParseBoundaries::atTheEnd),
+            new Sentence(5, "cut: DONE there, nothing, sharp.", ParseBoundaries::cut),
             new Sentence(5, "where it is DONE; -5 it FAILS, -6 sharp", ParseBoundaries::failsOrSharp),
             new Sentence(5, "it FAILS, sharp if that one or any ahead was sharp; else DONE where the last one was, sharp if any was",
                 ParseBoundaries::sharpSequence),
@@ -127,6 +128,19 @@ final class ParseBoundaries {
         Bench bench = Bench.of("A=end;");
         bench.parse("");
         due("no tree", bench.x.told(5), 0);
+    }
+
+    private static void cut() {
+        Bench bench = Bench.of("A=cut;");
+        bench.input("ab");
+        for (int place = 0; place <= 2; place++) {
+            due("at " + place, bench.x.parse(0, place), place);
+            Bench.due("told at " + place, bench.told(), "-1 0 1 0 1 0");
+        }
+        bench.x.input();
+        due("of none", bench.x.parse(0, 0), 0);
+        due("A=cut cut;", "", 0);
+        due("A='a'cut;", "b", -5);
     }
 
     private static void failsOrSharp() {
