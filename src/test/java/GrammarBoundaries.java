@@ -14,6 +14,7 @@ final class GrammarBoundaries {
             new Sentence(3, "no two RULES of one NAME", GrammarBoundaries::ruleTwice),
             new Sentence(3, "ALT: SEQ { | SEQ }. SEQ: ITEM { ITEM }.", GrammarBoundaries::emptySequence),
             new Sentence(3, "PART, perhaps with one of * + ? behind", GrammarBoundaries::oneSignBehind),
+            new Sentence(3, "or try not look as, each with ( ALT ) behind, or chain ( ALT , ALT )", GrammarBoundaries::bracketsBehind),
             new Sentence(3, "any byte but ' between two of these", GrammarBoundaries::quotedByte),
             new Sentence(3, "the first no more than the second", GrammarBoundaries::firstNoMore),
             new Sentence(3, "The place of a second that is less than the first is that of the second.", GrammarBoundaries::secondLess),
@@ -270,19 +271,34 @@ final class GrammarBoundaries {
         fault("A=any,any;", 5);
         fault("A=(any;", 6);
         fault("A=(any,any);", 6);
-        fault("A=chain(any);", 11);
         fault("A=chain(any|any any);", 19);
-        fault("A=chain(any,any,any);", 15);
+        fault("A=* ) ;", 2);
+    }
+
+    private static void bracketsBehind() {
         for (String word : new String[] {"try", "not", "look", "as", "chain"}) {
             fault("A=" + word + ";", 2 + word.length());
             fault("A=" + word + "  any;", 4 + word.length());
             fault("A=" + word + "'a';", 2 + word.length());
             fault("A=" + word + "*(any);", 2 + word.length());
+            fault("A=" + word + "B(any);B=any;", 2 + word.length());
+            fault("A=" + word + "();", 3 + word.length());
+            fault("A=" + word + "(any", 6 + word.length());
         }
         for (String word : new String[] {"try", "not", "look", "as"}) {
+            stands("A=" + word + "(any|any any);", 1);
             fault("A=" + word + "(any,any);", 6 + word.length());
         }
-        fault("A=* ) ;", 2);
+        stands("A=chain(any|cut any,any|any any);", 1);
+        fault("A=chain(any);", 11);
+        fault("A=chain(any any);", 15);
+        fault("A=chain(any,);", 12);
+        fault("A=chain(any,any,any);", 15);
+        for (String word : new String[] {"digit", "any", "end", "cut"}) {
+            stands("A=" + word + "(any);", 1);
+            stands("A=" + word + "*any;", 1);
+        }
+        fault("A=(any,any);", 6);
     }
 
     private static void faultWithin() {

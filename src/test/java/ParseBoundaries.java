@@ -35,8 +35,11 @@ final class ParseBoundaries {
                 ParseBoundaries::negated),
             new Sentence(5, "look: as the ALT, but DONE where it began; never sharp.", ParseBoundaries::looked),
             new Sentence(5, "An as that FAILS sharp is sharp.", ParseBoundaries::sharpAs),
+            new Sentence(5, "chain: the first ALT (if that FAILS, as that)", ParseBoundaries::firstOfChain),
+            new Sentence(5, "It is sharp if any was.", ParseBoundaries::sharpChains),
             new Sentence(5, "as either FAILS: sharp (or the second ahead of it was DONE sharp): chain FAILS sharp;"
                 + " else it is DONE where the last first ALT was", ParseBoundaries::chains),
+            new Sentence(5, "in one PARSE a NAME that was PARSED to an answer at a PLACE answers the same there anew", ParseBoundaries::anew),
             new Sentence(5, "What FAILS is in MEMORY, too, and is as sharp as it was.", ParseBoundaries::sharpMemory),
             new Sentence(5, "A RING: a NAME at a PLACE at which it is being run.", ParseBoundaries::rings),
             new Sentence(5, "a STEP behind 1000 of a PARSE", ParseBoundaries::stepsOfOne),
@@ -326,9 +329,17 @@ final class ParseBoundaries {
         due("A=try(as('a'cut'b'))|any;", "ac", 1);
     }
 
-    private static void chains() {
+    private static void firstOfChain() {
         due("A=chain('a',',');", "b", -5);
+        due("A=chain('a',',');", "", -5);
+        due("A=chain('a',',');", ",", -5);
+        due("A=chain('a',cut)|any;", "b", 1);
         due("A=chain('a'cut'b',',')|any;", "ac", -6);
+        due("A=chain('a'cut'b',',')|any;", "c", 1);
+        due("A=chain(try('a'cut'b'),',')|any;", "ac", 1);
+    }
+
+    private static void chains() {
         due("A=chain('a',',');", "a", 1);
         due("A=chain('a',',');", "a,a,a", 5);
         due("A=chain('a',',');", "a,a,", 3);
@@ -340,7 +351,12 @@ final class ParseBoundaries {
         due("A=chain('a',','cut'-');", "a,a", -6);
         due("A=chain('a'|'b'cut'c',',');", "a,a,bd", -6);
         due("A=chain('a'cut,',');", "a,b", 1);
+    }
+
+    private static void sharpChains() {
+        due("A=chain('a'cut,',')'x'|any;", "a", -6);
         due("A=chain('a'cut,',')'x'|any;", "a,b", -6);
+        due("A=chain('a',','cut)'x'|any;", "a", 1);
         due("A=chain('a',','|';'cut)'x'|any;", "a,a", 1);
         due("A=chain('a',','|';'cut)'x'|any;", "a;a", -6);
         due("A=chain('a',','|';'cut)'x'|any;", "a;a,b", -6);
@@ -353,6 +369,16 @@ final class ParseBoundaries {
             bench.parse(inputs[k]);
             due("sharp as " + inputs[k] + " is done", bench.x.told(4), sharp[k]);
         }
+    }
+
+    private static void anew() {
+        Bench bench = Bench.of("A=look(B)B|any;B=any any C?;C='x'B;");
+        due("done where it was", bench.parse("abxcd"), 5);
+        Bench.due("told", bench.told(), "5 8 12 1 0 15");
+        Bench.due("with its tree", bench.text(), "[[97,98,[99,100,[]]],[97,98,[99,100,[]]]]");
+        due("A=look(B)any B;B=any;", "ab", 2);
+        due("A=look(any B)any B;B='b'|'c';", "ac", 2);
+        due("A=B end|B any;B='a'|'a''b';", "ab", 2);
     }
 
     private static void sharpMemory() {

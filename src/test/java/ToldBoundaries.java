@@ -20,6 +20,7 @@ final class ToldBoundaries {
                 ToldBoundaries::withinNot),
             new Sentence(6, "if that FAILS, what was EXPECTED within it at the PLACE where it began doesn't count, but itself there",
                 ToldBoundaries::withinAs),
+            new Sentence(6, "What counts by not, as, is told as they answer", ToldBoundaries::asTheyAnswer),
             new Sentence(6, "if the PARSE ends within them, nothing of it", ToldBoundaries::endsWithin),
             new Sentence(6, "it isn't run (also what was EXPECTED isn't anew)", ToldBoundaries::notAnew),
             new Sentence(6, "STEPS (2; as many as it had)", ToldBoundaries::fewestSteps),
@@ -159,6 +160,16 @@ final class ToldBoundaries {
         due("A=as('a'as('b''c'));", "abx", "-5 2 16 5 0 0 0");
         due("A=as(look('a'any)'b');", "a", "-5 1 4 4 0 0 0");
         due("A=as('y''z')|as('a''b');", "ac", "-5 1 32 5 0 0 0");
+    }
+
+    private static void asTheyAnswer() {
+        // Then the PARSE ends, behind them.
+        due("A=as('a')|A;", "c", "-16 0 1 3 0 0 0");
+        due("A=as('a'?)A;", "c", "-16 0 2 3 0 0 0");
+        due("A=not(look(any))|A;", "c", "-16 0 1 4 0 0 0");
+        due("A=not('a')A;", "c", "-16 -1 0 3 0 0 0");
+        due("A=not(as('a'))cut+;", "c", "-15 -1 0 4 0 0 0");
+        due("A=as(not(any))|cut*;", "c", "-15 0 1 4 0 0 0");
     }
 
     private static void endsWithin() {
