@@ -378,6 +378,7 @@ final class ParseBoundaries {
         Bench.due("with its tree", bench.text(), "[[97,98,[99,100,[]]],[97,98,[99,100,[]]]]");
         due("A=look(B)any B;B=any;", "ab", 2);
         due("A=look(any B)any B;B='b'|'c';", "ac", 2);
+        due("A=look(any B)B any;B='b'|'c';", "bc", 2);
         due("A=B end|B any;B='a'|'a''b';", "ab", 2);
     }
 
