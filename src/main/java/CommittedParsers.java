@@ -181,20 +181,16 @@ public final class CommittedParsers {
             cells = new int[room < 0 ? 0 : room];
         }
 
-        private boolean inside(int k) {
-            return k >= 0 && k < used && k < cells.length;
-        }
-
         int size() {
             return used;
         }
 
         int at(int k) {
-            return inside(k) ? cells[k] : NONE;
+            return k >= 0 && k < used && k < cells.length ? cells[k] : NONE;
         }
 
         void put(int k, int number) {
-            if (inside(k)) {
+            if (k >= 0 && k < used && k < cells.length) {
                 cells[k] = number;
             }
         }
@@ -590,15 +586,11 @@ public final class CommittedParsers {
             return true;
         }
 
-        private void closes() {
-            must(')');
-            open--;
-        }
-
         private void readBody(Part part) {
             if (opens()) {
                 part.body = readAlt();
-                closes();
+                must(')');
+                open--;
             }
         }
 
@@ -607,7 +599,8 @@ public final class CommittedParsers {
                 part.body = readAlt();
                 must(',');
                 part.second = readAlt();
-                closes();
+                must(')');
+                open--;
             }
         }
 

@@ -343,6 +343,7 @@ final class GrammarBoundaries {
             String rest = word.equals("chain") ? ",any)" : ")";
             stands("A=" + (word + "(").repeat(8) + "any" + rest.repeat(8) + ";", 1);
             fault("A=" + (word + "(").repeat(8) + "((", 2 + 8 * (word.length() + 1));
+            stands("A=" + (word + "(any" + rest).repeat(9) + ";", 1);
         }
         String seven = "A=" + "(".repeat(7) + "chain(any,";
         fault(seven + "(any))" + ")".repeat(7) + ";", seven.length());

@@ -8,7 +8,9 @@ import java.nio.file.Path;
 import java.util.ArrayList;
 import java.util.Arrays;
 import java.util.List;
+import java.util.Map;
 import java.util.Set;
+import java.util.TreeMap;
 import java.util.TreeSet;
 import java.util.regex.Matcher;
 import java.util.regex.Pattern;
@@ -30,6 +32,7 @@ public final class LanguageTest {
         statics();
         words(code);
         sizes(source);
+        depths(code);
         Bench.finish("LanguageTest");
     }
 
@@ -143,5 +146,72 @@ public final class LanguageTest {
                 from = -1;
             }
         }
+    }
+
+    /** Rule 11: calls that are no recursion go at most eight deep; of methods of one name all are meant. */
+    private static void depths(String code) {
+        Bench.begin("rule 11");
+        Map<String, Set<String>> calls = calls(code);
+        Map<String, Set<String>> reached = new TreeMap<>();
+        for (String one : calls.keySet()) {
+            reached.put(one, reachedFrom(one, calls));
+        }
+        for (String one : FACE) {
+            String name = one.substring(0, one.indexOf('('));
+            Bench.due("calls of " + name, calls.containsKey(name) ? 1 : 0, 1);
+            int deep = depth(name, calls, reached);
+            Bench.due("methods below one another from " + name, deep > 8 ? deep : 0, 0);
+        }
+    }
+
+    /** What each method's text calls of the methods of the file. */
+    private static Map<String, Set<String>> calls(String code) {
+        Map<String, String> texts = new TreeMap<>();
+        Matcher heads = Pattern.compile("(?m)^( {4}| {8})(?:[\\w\\[\\]]+ )*(\\w+)\\([^;]*?\\) \\{$").matcher(code);
+        while (heads.find()) {
+            int end = code.indexOf("\n" + heads.group(1) + "}", heads.end());
+            texts.merge(heads.group(2), code.substring(heads.end(), end), String::concat);
+        }
+        Map<String, Set<String>> calls = new TreeMap<>();
+        for (String one : texts.keySet()) {
+            Set<String> its = new TreeSet<>();
+            Matcher named = Pattern.compile("\\b(\\w+)\\(").matcher(texts.get(one));
+            while (named.find()) {
+                its.add(named.group(1));
+            }
+            its.retainAll(texts.keySet());
+            calls.put(one, its);
+        }
+        return calls;
+    }
+
+    private static Set<String> reachedFrom(String from, Map<String, Set<String>> calls) {
+        Set<String> seen = new TreeSet<>();
+        List<String> todo = new ArrayList<>(calls.get(from));
+        while (!todo.isEmpty()) {
+            String one = todo.remove(todo.size() - 1);
+            if (seen.add(one)) {
+                todo.addAll(calls.get(one));
+            }
+        }
+        return seen;
+    }
+
+    /** Methods that come to one another are one recursion, and count once. */
+    private static int depth(String from, Map<String, Set<String>> calls, Map<String, Set<String>> reached) {
+        Set<String> out = new TreeSet<>();
+        for (String one : calls.keySet()) {
+            boolean together = one.equals(from) || reached.get(from).contains(one) && reached.get(one).contains(from);
+            if (together) {
+                out.addAll(calls.get(one));
+            }
+        }
+        int most = 0;
+        for (String one : out) {
+            if (!one.equals(from) && !reached.get(one).contains(from)) {
+                most = Math.max(most, depth(one, calls, reached));
+            }
+        }
+        return most + 1;
     }
 }
