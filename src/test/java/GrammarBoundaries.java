@@ -249,6 +249,11 @@ final class GrammarBoundaries {
             fault("A=any   " + word, 8);
             fault("A=B|(any " + word + "  ", 9);
         }
+        for (String word : new String[] {"digit", "any", "end", "cut", "try", "not", "look", "as", "chain"}) {
+            for (int k = 0; k < word.length(); k++) {
+                fault("A=" + word.substring(0, k) + 'x' + word.substring(k + 1) + "(any);", 2);
+            }
+        }
     }
 
     private static void straySigns() {
@@ -360,6 +365,9 @@ final class GrammarBoundaries {
         fault("A=A H;C=B;", 4);
         fault("A=A C;C=(any D);", 13);
         fault("A=B C;C=D;D=E;", 2);
+        for (char name = 'A'; name <= 'H'; name++) {
+            fault((name == 'C' ? "D" : "C") + "=any|" + name + ";", 6);
+        }
         stands("A=B;B=A;", 2);
         // The others come first, also where they stand behind it.
         fault("A=B;x", 4);

@@ -18,6 +18,7 @@ public final class PromisesTest {
         promise11();
         promise12();
         promise13();
+        readme();
         Bench.finish("PromisesTest");
     }
 
@@ -563,5 +564,16 @@ public final class PromisesTest {
         due("BAD", bench.x.count(5), -2);
         due("BAD", bench.x.count(-1), -2);
         due("BAD", bench.x.count(Integer.MAX_VALUE), -2);
+    }
+
+    /** The example that README.md shows. */
+    private static void readme() {
+        Bench bench = Bench.of("A=chain(digit,'+'|'-');");
+        due("input", bench.input("7-2+4"), 5);
+        due("parse", bench.x.parse(0, 0), 5);
+        due("worth", bench.x.worth(), 9);
+        due("text", bench.text(), "((7-2)+4)");
+        due("far", bench.x.told(0), 5);
+        due("wanted", bench.x.told(1), 6);
     }
 }

@@ -167,6 +167,36 @@ final class TreeBoundaries {
         }
         due("a tree", bench.x.parse(0, 0), 10);
         Bench.due("its text", bench.text(), "([[49,120,50],[50,120,51]]-[[52,122,53]])");
+        manyTrees();
+    }
+
+    /** Some 720 trees, with more than 1400 in them, of one parse. */
+    private static void manyTrees() {
+        Bench bench = Bench.of("A=" + "look(chain(any any,any any))".repeat(4) + ";");
+        bench.input("ab".repeat(119) + "yz");
+        due("many trees", bench.x.parse(0, 0), 0);
+        due("their steps", bench.x.told(2), 4 * 243);
+        // Of each chain 60 first ALTS, each with its two bytes, and 59 FORKS.
+        due("their nodes", bench.x.told(5), 1 + 4 * 239);
+        for (int chain = 0; chain < 4; chain++) {
+            int from = 1 + chain * 239;
+            due("a chain's fork", bench.x.node(from, 0) * 1000 + bench.x.node(from, 1), 2000);
+            due("is within", bench.x.node(from, 2), 1);
+            due("the first ALT at the left", bench.x.node(from + 59, 0) * 1000 + bench.x.node(from + 59, 1), 1002);
+            due("is within", bench.x.node(from + 59, 2), 60);
+            due("its bytes", bench.x.node(from + 60, 1) * 1000 + bench.x.node(from + 61, 1), 97098);
+            due("the last first ALT", bench.x.node(from + 236, 0) * 1000 + bench.x.node(from + 236, 1), 1002);
+            due("is within", bench.x.node(from + 236, 2), 2);
+            due("its bytes", bench.x.node(from + 237, 1) * 1000 + bench.x.node(from + 238, 1), 97098);
+        }
+        // Each FORK's byte is 0; a byte of a text is worth a call, so only its end is looked at.
+        int end = 2 + 4 * (60 * "[97,98]".length() + 59 * "(?)".length()) + 3;
+        StringBuilder last = new StringBuilder();
+        for (int k = end - 20; k <= end; k++) {
+            int sign = bench.x.text(k);
+            last.append(sign < 0 ? "none" : "" + (char) sign);
+        }
+        Bench.due("the text's end", last.toString(), ")?[97,98])?[97,98])]none");
     }
 
     private static void treeOfSequence() {
