@@ -168,6 +168,19 @@ final class TreeBoundaries {
         due("a tree", bench.x.parse(0, 0), 10);
         Bench.due("its text", bench.text(), "([[49,120,50],[50,120,51]]-[[52,122,53]])");
         manyTrees();
+        afterManyTooBig();
+    }
+
+    /** What was gathered for a BOUGH that is BIG is not left over. */
+    private static void afterManyTooBig() {
+        Bench bench = Bench.of("A=" + "B".repeat(100) + ";B=look(C);C=any*;D=any any;");
+        bench.input("x".repeat(20));
+        due("a large tree", bench.x.parse(0, 0), -19);
+        for (int call = 0; call < 10; call++) {
+            due("drawn", bench.x.drawn(0, call, 20, 20), 0);
+        }
+        due("a small one", bench.x.parse(3, 0), 2);
+        Bench.due("its text", bench.text(), "[120,120]");
     }
 
     /** Some 720 trees, with more than 1400 in them, of one parse. */
